@@ -182,7 +182,8 @@ final class OtherEnd {
 
     static String out(FramedTalk x) {
         StringBuilder all = new StringBuilder();
-        for (int i = 0; i < x.outLength(); i++) {
+        int length = x.outLength();
+        for (int i = 0; i < length; i++) {
             all.append((char) x.outAt(i));
         }
         return all.toString();
@@ -190,7 +191,8 @@ final class OtherEnd {
 
     static String message(FramedTalk x, int k) {
         StringBuilder all = new StringBuilder();
-        for (int i = 0; i < x.length(k); i++) {
+        int length = x.length(k);
+        for (int i = 0; i < length; i++) {
             all.append((char) x.byteAt(k, i));
         }
         return all.toString();
