@@ -136,7 +136,7 @@ public final class FramedTalk {
         if (i < 0 || i >= waiting.lengthOf(k)) {
             throw new IndexOutOfBoundsException();
         }
-        return waiting.byteOf(k, i);
+        return waiting.contentAt(k, i);
     }
 
     public int take() throws NoSuchElementException {
@@ -215,10 +215,10 @@ public final class FramedTalk {
     }
 
     private void hearRequest(int b) {
-        request.add(b);
+        request.gather(b);
         if (request.isComplete()) {
             answerRequest(request.judge());
-        } else if (request.isFull()) {
+        } else if (request.isAtLimit()) {
             answerRequest(Request.BAD);
         }
     }
@@ -410,7 +410,9 @@ public final class FramedTalk {
             if (b < lowest || b > highest) {
                 return false;
             }
-            await(due - 1, 128, 191);
+            due--;
+            lowest = 128;
+            highest = 191;
             return true;
         }
 
@@ -428,17 +430,10 @@ public final class FramedTalk {
             if (b > 127 && b < 194 || b > 244) {
                 return false;
             }
-            int more = b < 128 ? 0 : b < 224 ? 1 : b < 240 ? 2 : 3;
-            int low = b == 224 ? 160 : b == 240 ? 144 : 128;
-            int high = b == 237 ? 159 : b == 244 ? 143 : 191;
-            await(more, low, high);
+            due = b < 128 ? 0 : b < 224 ? 1 : b < 240 ? 2 : 3;
+            lowest = b == 224 ? 160 : b == 240 ? 144 : 128;
+            highest = b == 237 ? 159 : b == 244 ? 143 : 191;
             return true;
-        }
-
-        private void await(int more, int low, int high) {
-            due = more;
-            lowest = low;
-            highest = high;
         }
     }
 
@@ -472,11 +467,11 @@ public final class FramedTalk {
             ends = new int[NAMES];
         }
 
-        void add(int b) {
+        void gather(int b) {
             bytes.add(b);
         }
 
-        boolean isFull() {
+        boolean isAtLimit() {
             return bytes.isFull();
         }
 
@@ -722,7 +717,7 @@ public final class FramedTalk {
                 w[t] = bytes.at(i) << 24 | bytes.at(i + 1) << 16 | bytes.at(i + 2) << 8 | bytes.at(i + 3);
             }
             for (int t = 16; t < ROUNDS; t++) {
-                w[t] = Integer.rotateLeft(w[t - 3] ^ w[t - 8] ^ w[t - 14] ^ w[t - 16], 1);
+                w[t] = rotated(w[t - 3] ^ w[t - 8] ^ w[t - 14] ^ w[t - 16], 1);
             }
         }
 
@@ -733,10 +728,10 @@ public final class FramedTalk {
             int d = h[3];
             int e = h[4];
             for (int t = 0; t < ROUNDS; t++) {
-                int x = Integer.rotateLeft(a, 5) + blend(t, b, c, d) + e + w[t];
+                int x = rotated(a, 5) + blend(t, b, c, d) + e + w[t];
                 e = d;
                 d = c;
-                c = Integer.rotateLeft(b, 30);
+                c = rotated(b, 30);
                 b = a;
                 a = x;
             }
@@ -745,6 +740,10 @@ public final class FramedTalk {
             h[2] += c;
             h[3] += d;
             h[4] += e;
+        }
+
+        private static int rotated(int x, int n) {
+            return x << n | x >>> (32 - n);
         }
 
         /** F plus K of step t. */
@@ -1022,7 +1021,7 @@ public final class FramedTalk {
             return lengths[placeOf(k)];
         }
 
-        int byteOf(int k, int i) {
+        int contentAt(int k, int i) {
             return i < 0 || i >= MESSAGE_LIMIT ? 0 : contents[placeOf(k) * MESSAGE_LIMIT + i];
         }
 

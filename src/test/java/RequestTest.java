@@ -144,12 +144,12 @@ public final class RequestTest {
 
     private static void lines() {
         for (String line : new String[] {"a:", "A:b", "-: x", "9:9", "Az-09: x", "x: \t ", "x:\ta\tb ", "x:: :", "x: ~ !",
-            "Hosts: q", "Hos: q", "Sec-WebSocket-Keys: q", "Sec-WebSocket-Versio: 12", "xUpgrade: q",
+            "Hosts: q", "Hos: q", "Post: q", "Vpgrade: q", "Donnection: q", "Tec-WebSocket-Key: q", "Sec-WebSocket-Keys: q", "Sec-WebSocket-Versio: 12", "xUpgrade: q",
             "Sec-WebSocket-Protocol: chat"}) {
             line(true, line);
         }
         for (String line : new String[] {"x", ":", ": x", " x: y", "x : y", "x\t: y", "x_y: z", "x.y: z", "x y: z",
-            "x: " + (char) 127, "x: " + (char) 128, "x: " + (char) 255, "x: " + (char) 31, "x: \0", "x: a\rb",
+            "x:" + (char) 127, "x:\1", "x: " + (char) 127, "x: " + (char) 128, "x: " + (char) 255, "x: " + (char) 31, "x: \0", "x: a\rb",
             "x: a\nb", "x: a\r", "x: a\n", "\nx: a", "x\r: a", "x@: a", "x[: a", "x`: a", "x{: a", "x/: a", "x;: a",
             "x" + (char) 225 + ": a"}) {
             line(false, line);
@@ -195,6 +195,7 @@ public final class RequestTest {
         bad(FIRST, HOST, "Upgrade: upgrade", CONNECTION, KEY, VERSION);
         bad(FIRST, HOST, UPGRADE, "Connection: websocket", KEY, VERSION);
         bad(FIRST, HOST, "Upgrade: web,socket", CONNECTION, KEY, VERSION);
+        bad(FIRST, HOST, "Upgrade: xebsocket", CONNECTION, KEY, VERSION);
         bad(FIRST, HOST, "Upgrade: websocke", CONNECTION, KEY, VERSION);
     }
 
@@ -227,7 +228,7 @@ public final class RequestTest {
         for (String value : new String[] {"13", " 13", "13 ", "\t13 \t"}) {
             good(FIRST, HOST, UPGRADE, CONNECTION, KEY, "Sec-WebSocket-Version:" + value);
         }
-        for (String value : new String[] {"", " ", "8", "12", "14", "1 3", "013", "130", "13,8", "13, 13", "thirteen"}) {
+        for (String value : new String[] {"", " ", "8", "12", "14", "23", "1 3", "013", "130", "13,8", "13, 13", "thirteen"}) {
             old(FIRST, HOST, UPGRADE, CONNECTION, KEY, "Sec-WebSocket-Version:" + value);
         }
         bad(FIRST, HOST, UPGRADE, CONNECTION, "Sec-WebSocket-Key: x", "Sec-WebSocket-Version: 8");

@@ -6,6 +6,7 @@ public final class SayTest {
         clears();
         sends();
         sendArguments();
+        refusedTextLeavesNothing();
         sendLimit();
         pings();
         pongLimit();
@@ -118,6 +119,18 @@ public final class SayTest {
             OtherEnd.dueArgument("send in " + size, () -> x.send(2, size));
         }
         OtherEnd.due("outLength", x.outLength(), 0);
+    }
+
+    private static void refusedTextLeavesNothing() {
+        FramedTalk x = OtherEnd.open();
+        OtherEnd.write(x, OtherEnd.bytes('a', 226));
+        OtherEnd.dueArgument("send of half a character", () -> x.send(1, 0));
+        OtherEnd.dueArgument("close with half a character", () -> x.close(1000));
+        OtherEnd.write(x, OtherEnd.bytes(130, 172));
+        OtherEnd.due("send of the whole one", x.send(1, 0), 1);
+        x.drop(x.outLength());
+        x.close(1000);
+        OtherEnd.dueOut("close with the whole one", x, 136, 6, 3, 232, 'a', 226, 130, 172);
     }
 
     private static void fill(FramedTalk x, int size) {
