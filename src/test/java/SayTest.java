@@ -135,7 +135,8 @@ public final class SayTest {
 
     private static void fill(FramedTalk x, int size) {
         x.clear();
-        for (int left = size; left > 0; left = size - x.outLength()) {
+        for (int round = 0; round < 8 && x.outLength() < size; round++) {
+            int left = size - x.outLength();
             x.clear();
             int piece = left <= 102 ? left : Math.min(102, left - 2);
             OtherEnd.write(x, OtherEnd.many('f', piece - 2));
