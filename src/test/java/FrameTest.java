@@ -39,32 +39,6 @@ public final class FrameTest {
         OtherEnd.due("state", x.state(), OtherEnd.OPEN);
     }
 
-    /** The talk ends with the code at the last byte of these, and not before. */
-    private static void violates(String what, int code, byte[]... rows) {
-        byte[] row = OtherEnd.join(rows);
-        FramedTalk x = OtherEnd.open();
-        int delivered = OtherEnd.feed(x, Arrays.copyOf(row, row.length - 1));
-        OtherEnd.due(what + ": state before", x.state(), OtherEnd.OPEN);
-        x.drop(x.outLength());
-        OtherEnd.due(what + ": feed", x.feed(row[row.length - 1], 1), 0);
-        OtherEnd.dueEnd(what, x, code);
-        OtherEnd.due(what + ": delivered", x.delivered(), delivered);
-        FramedTalk closing = OtherEnd.open();
-        closing.close(1000);
-        OtherEnd.feed(closing, row);
-        OtherEnd.due(what + ", closing: state", closing.state(), OtherEnd.CLOSED);
-        OtherEnd.due(what + ", closing: endCode", closing.endCode(), code);
-        OtherEnd.due(what + ", closing: outLength", closing.outLength(), 4);
-    }
-
-    private static FramedTalk stands(String what, byte[]... rows) {
-        FramedTalk x = OtherEnd.open();
-        OtherEnd.feed(x, rows);
-        OtherEnd.due(what + ": state", x.state(), OtherEnd.OPEN);
-        OtherEnd.due(what + ": endCode", x.endCode(), 0);
-        return x;
-    }
-
     private static byte[] begun() {
         return OtherEnd.frame(OtherEnd.BYTES, OtherEnd.signs("x"));
     }
@@ -78,18 +52,18 @@ public final class FrameTest {
             boolean between = plain && (kind == 0 || isShort && first >= 128);
             byte[] row = OtherEnd.bytes(first);
             if (alone) {
-                stands("first byte " + first, row);
+                Edge.stands("first byte " + first, row);
             } else {
-                violates("first byte " + first, 1002, row);
+                Edge.violates("first byte " + first, 1002, row);
             }
             if (between) {
-                stands("first byte " + first + " under way", begun(), row);
+                Edge.stands("first byte " + first + " under way", begun(), row);
             } else {
-                violates("first byte " + first + " under way", 1002, begun(), row);
+                Edge.violates("first byte " + first + " under way", 1002, begun(), row);
             }
         }
-        violates("a MORE behind the last", 1002, OtherEnd.frame(129, OtherEnd.signs("a")), OtherEnd.bytes(128));
-        violates("a MORE behind the last MORE", 1002, begun(), OtherEnd.frame(128, OtherEnd.signs("a")),
+        Edge.violates("a MORE behind the last", 1002, OtherEnd.frame(129, OtherEnd.signs("a")), OtherEnd.bytes(128));
+        Edge.violates("a MORE behind the last MORE", 1002, begun(), OtherEnd.frame(128, OtherEnd.signs("a")),
             OtherEnd.bytes(0));
     }
 
@@ -98,17 +72,17 @@ public final class FrameTest {
             for (int first : new int[] {1, 2, 129, 130}) {
                 String what = first + " and second byte " + second;
                 if (second < 128) {
-                    violates(what, 1002, OtherEnd.bytes(first, second));
+                    Edge.violates(what, 1002, OtherEnd.bytes(first, second));
                 } else {
-                    stands(what, OtherEnd.bytes(first, second));
+                    Edge.stands(what, OtherEnd.bytes(first, second));
                 }
             }
             for (int first : new int[] {136, 137, 138}) {
                 String what = first + " and second byte " + second;
                 if (second < 128 || second > 253) {
-                    violates(what, 1002, OtherEnd.bytes(first, second));
+                    Edge.violates(what, 1002, OtherEnd.bytes(first, second));
                 } else {
-                    stands(what, OtherEnd.bytes(first, second));
+                    Edge.stands(what, OtherEnd.bytes(first, second));
                 }
             }
         }
@@ -116,36 +90,36 @@ public final class FrameTest {
 
     private static void lengths() {
         for (int first : new int[] {1, 2, 129, 130}) {
-            violates("two bytes of 0", 1002, OtherEnd.bytes(first, 254, 0, 0));
-            violates("two bytes of 125", 1002, OtherEnd.bytes(first, 254, 0, 125));
-            stands("two bytes of 126", OtherEnd.bytes(first, 254, 0, 126));
-            stands("two bytes of 300", OtherEnd.bytes(first, 254, 1, 44));
-            violates("two bytes of 301", 1009, OtherEnd.bytes(first, 254, 1, 45));
-            violates("two bytes of 65535", 1009, OtherEnd.bytes(first, 254, 255, 255));
+            Edge.violates("two bytes of 0", 1002, OtherEnd.bytes(first, 254, 0, 0));
+            Edge.violates("two bytes of 125", 1002, OtherEnd.bytes(first, 254, 0, 125));
+            Edge.stands("two bytes of 126", OtherEnd.bytes(first, 254, 0, 126));
+            Edge.stands("two bytes of 300", OtherEnd.bytes(first, 254, 1, 44));
+            Edge.violates("two bytes of 301", 1009, OtherEnd.bytes(first, 254, 1, 45));
+            Edge.violates("two bytes of 65535", 1009, OtherEnd.bytes(first, 254, 255, 255));
             for (long size : new long[] {0, 5, 126, 300, 65535, 1L << 63, (1L << 63) + 200, -1L, Long.MIN_VALUE + 65536}) {
-                violates("eight bytes of " + size, 1002, OtherEnd.longHead(first, size));
+                Edge.violates("eight bytes of " + size, 1002, OtherEnd.longHead(first, size));
             }
             for (long size : new long[] {65536, 65537, 1L << 32, (1L << 32) + 5, (1L << 62), Long.MAX_VALUE}) {
-                violates("eight bytes of " + size, 1009, OtherEnd.longHead(first, size));
+                Edge.violates("eight bytes of " + size, 1009, OtherEnd.longHead(first, size));
             }
         }
     }
 
     private static void tooLong() {
         byte[] begin = OtherEnd.frame(OtherEnd.BYTES, OtherEnd.many(7, 200));
-        stands("200 and 100", begin, OtherEnd.bytes(0, 228));
-        violates("200 and 101", 1009, begin, OtherEnd.bytes(0, 229));
-        violates("200 and 126", 1009, begin, OtherEnd.bytes(0, 254, 0, 126));
-        violates("200 and 125 in two bytes", 1002, begin, OtherEnd.bytes(0, 254, 0, 125));
-        violates("200 and 101, not masked", 1002, begin, OtherEnd.bytes(0, 101));
+        Edge.stands("200 and 100", begin, OtherEnd.bytes(0, 228));
+        Edge.violates("200 and 101", 1009, begin, OtherEnd.bytes(0, 229));
+        Edge.violates("200 and 126", 1009, begin, OtherEnd.bytes(0, 254, 0, 126));
+        Edge.violates("200 and 125 in two bytes", 1002, begin, OtherEnd.bytes(0, 254, 0, 125));
+        Edge.violates("200 and 101, not masked", 1002, begin, OtherEnd.bytes(0, 101));
         byte[] full = OtherEnd.frame(OtherEnd.TEXT, OtherEnd.many('a', 300));
-        stands("300 and 0", full, OtherEnd.bytes(0, 128));
-        violates("300 and 1", 1009, full, OtherEnd.bytes(128, 129));
-        FramedTalk x = stands("300 and a ping of 125", full, OtherEnd.frame(137, OtherEnd.many(1, 125)),
+        Edge.stands("300 and 0", full, OtherEnd.bytes(0, 128));
+        Edge.violates("300 and 1", 1009, full, OtherEnd.bytes(128, 129));
+        FramedTalk x = Edge.stands("300 and a ping of 125", full, OtherEnd.frame(137, OtherEnd.many(1, 125)),
             OtherEnd.frame(128, new byte[0]));
         OtherEnd.due("length of 300", x.length(0), 300);
         OtherEnd.due("delivered", x.delivered(), 1);
-        stands("300 behind another of 300", OtherEnd.frame(129, OtherEnd.many('a', 300)), OtherEnd.head(130, 300));
+        Edge.stands("300 behind another of 300", OtherEnd.frame(129, OtherEnd.many('a', 300)), OtherEnd.head(130, 300));
     }
 
     private static void masks() {
@@ -204,12 +178,12 @@ public final class FrameTest {
     }
 
     private static void closesThatViolate() {
-        violates("CLOSE of one byte", 1002, OtherEnd.frame(136, OtherEnd.bytes(3)));
-        violates("CLOSE with 1005", 1002, OtherEnd.closeFrame(1005, new byte[0]));
-        violates("CLOSE with 1004 and no text", 1002, OtherEnd.closeFrame(1004, OtherEnd.bytes(255)));
-        violates("CLOSE and no text", 1007, OtherEnd.closeFrame(1000, OtherEnd.bytes(255)));
-        violates("CLOSE and no text, early", 1007, OtherEnd.closeFrame(1000, OtherEnd.bytes(128, 'a', 'b')));
-        violates("CLOSE and half a character", 1007, OtherEnd.closeFrame(1000, OtherEnd.bytes('a', 226, 130)));
+        Edge.violates("CLOSE of one byte", 1002, OtherEnd.frame(136, OtherEnd.bytes(3)));
+        Edge.violates("CLOSE with 1005", 1002, OtherEnd.closeFrame(1005, new byte[0]));
+        Edge.violates("CLOSE with 1004 and no text", 1002, OtherEnd.closeFrame(1004, OtherEnd.bytes(255)));
+        Edge.violates("CLOSE and no text", 1007, OtherEnd.closeFrame(1000, OtherEnd.bytes(255)));
+        Edge.violates("CLOSE and no text, early", 1007, OtherEnd.closeFrame(1000, OtherEnd.bytes(128, 'a', 'b')));
+        Edge.violates("CLOSE and half a character", 1007, OtherEnd.closeFrame(1000, OtherEnd.bytes('a', 226, 130)));
         byte[] half = OtherEnd.frame(1, OtherEnd.bytes(226));
         FramedTalk x = OtherEnd.open();
         OtherEnd.feed(x, half, OtherEnd.closeFrame(1001, OtherEnd.signs("bye")));

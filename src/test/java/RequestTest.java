@@ -6,15 +6,6 @@ import java.util.Random;
 
 /** Promises 1 to 6, as far as the request goes: what is good, what is bad, and what is answered. */
 public final class RequestTest {
-    private static final String BAD = "HTTP/1.1 400 Bad Request\r\n\r\n";
-    private static final String OLD = "HTTP/1.1 426 Upgrade Required\r\nSec-WebSocket-Version: 13\r\n\r\n";
-    private static final String FIRST = "GET /chat HTTP/1.1";
-    private static final String HOST = "Host: a.b";
-    private static final String UPGRADE = "Upgrade: websocket";
-    private static final String CONNECTION = "Connection: Upgrade";
-    private static final String KEY = "Sec-WebSocket-Key: " + OtherEnd.KEY;
-    private static final String VERSION = "Sec-WebSocket-Version: 13";
-
     public static void main(String[] args) throws NoSuchAlgorithmException {
         newObject();
         goodOne();
@@ -30,11 +21,6 @@ public final class RequestTest {
         limit();
         behindTheRequest();
         OtherEnd.end();
-    }
-
-    private static String welcome(String proof) {
-        return "HTTP/1.1 101 Switching Protocols\r\nUpgrade: websocket\r\nConnection: Upgrade\r\n"
-            + "Sec-WebSocket-Accept: " + proof + "\r\n\r\n";
     }
 
     private static void newObject() {
@@ -66,14 +52,14 @@ public final class RequestTest {
         OtherEnd.due("feed of the last byte", x.feed(10, 1), 0);
         OtherEnd.due("state", x.state(), OtherEnd.OPEN);
         OtherEnd.due("endCode", x.endCode(), 0);
-        OtherEnd.due("OUT", OtherEnd.out(x), welcome(OtherEnd.PROOF));
+        OtherEnd.due("OUT", OtherEnd.out(x), Asker.welcome(OtherEnd.PROOF));
     }
 
     private static void everyPiece() {
         for (int piece = 1; piece <= 8; piece++) {
             FramedTalk x = new FramedTalk();
             OtherEnd.feedBy(piece, x, OtherEnd.signs(OtherEnd.goodRequest(OtherEnd.KEY)));
-            OtherEnd.due("in pieces of " + piece, OtherEnd.out(x), welcome(OtherEnd.PROOF));
+            OtherEnd.due("in pieces of " + piece, OtherEnd.out(x), Asker.welcome(OtherEnd.PROOF));
         }
     }
 
@@ -86,35 +72,14 @@ public final class RequestTest {
             String key = Base64.getEncoder().encodeToString(secret);
             byte[] all = (key + "258EAFA5-E914-47DA-95CA-C5AB0DC85B11").getBytes(StandardCharsets.US_ASCII);
             String proof = Base64.getEncoder().encodeToString(digest.digest(all));
-            due(OtherEnd.goodRequest(key), welcome(proof), OtherEnd.OPEN);
+            Asker.due(OtherEnd.goodRequest(key), Asker.welcome(proof), OtherEnd.OPEN);
         }
-    }
-
-    private static void due(String request, String out, int state) {
-        FramedTalk x = new FramedTalk();
-        OtherEnd.feed(x, OtherEnd.signs(request));
-        String what = "request <" + request.replace("\r", "\\r").replace("\n", "\\n") + ">";
-        OtherEnd.due(what + ": state", x.state(), state);
-        OtherEnd.due(what + ": OUT", OtherEnd.out(x), out);
-        OtherEnd.due(what + ": endCode", x.endCode(), 0);
-    }
-
-    private static void good(String... lines) {
-        due(OtherEnd.request(lines), welcome(OtherEnd.PROOF), OtherEnd.OPEN);
-    }
-
-    private static void bad(String... lines) {
-        due(OtherEnd.request(lines), BAD, OtherEnd.CLOSED);
-    }
-
-    private static void old(String... lines) {
-        due(OtherEnd.request(lines), OLD, OtherEnd.CLOSED);
     }
 
     private static void firstLines() {
         for (String first : new String[] {"GET / HTTP/1.1", "GET x HTTP/1.1", "GET !~ HTTP/1.1",
             "GET HTTP/1.1 HTTP/1.1"}) {
-            good(first, HOST, UPGRADE, CONNECTION, KEY, VERSION);
+            Asker.good(Asker.withFirst(first));
         }
         for (String first : new String[] {"", "GET", "GET ", "GET  HTTP/1.1", "GET HTTP/1.1", "get / HTTP/1.1",
             "POST / HTTP/1.1", "GET / HTTP/1.0", "GET / HTTP/1.11", "GET / http/1.1", "GET / HTTP/1.1 ",
@@ -122,24 +87,16 @@ public final class RequestTest {
             "GET /" + (char) 127 + " HTTP/1.1", "GET /" + (char) 31 + " HTTP/1.1", "GET /" + (char) 200 + " HTTP/1.1",
             "GET\t/ HTTP/1.1", "GET /\tHTTP/1.1", "GET/ HTTP/1.1", "GET /HTTP/1.1", "\rGET / HTTP/1.1",
             "GET /\r HTTP/1.1", "GET /\n HTTP/1.1", "GET / HTTP/1.1\r", "HTTP/1.1", "GET / HTTP/1.", "GET /\0 HTTP/1.1"}) {
-            bad(first, HOST, UPGRADE, CONNECTION, KEY, VERSION);
+            Asker.bad(Asker.withFirst(first));
         }
-        due("\r\n\r\n", BAD, OtherEnd.CLOSED);
-        due("GET / HTTP/1.1\r\n\r\n", BAD, OtherEnd.CLOSED);
-        bad(HOST, FIRST, UPGRADE, CONNECTION, KEY, VERSION);
+        Asker.due("\r\n\r\n", Asker.BAD, OtherEnd.CLOSED);
+        Asker.due("GET / HTTP/1.1\r\n\r\n", Asker.BAD, OtherEnd.CLOSED);
+        Asker.bad(Asker.HOST, Asker.FIRST, Asker.UPGRADE, Asker.CONNECTION, Asker.KEY, Asker.VERSION);
     }
 
     private static void line(boolean isGood, String line) {
-        String[][] orders = {
-            {FIRST, line, HOST, UPGRADE, CONNECTION, KEY, VERSION},
-            {FIRST, HOST, UPGRADE, CONNECTION, KEY, VERSION, line}};
-        for (String[] order : orders) {
-            if (isGood) {
-                good(order);
-            } else {
-                bad(order);
-            }
-        }
+        Asker.goodOrBad(isGood, Asker.andThen(line));
+        Asker.goodOrBad(isGood, Asker.withSecond(line));
     }
 
     private static void lines() {
@@ -157,50 +114,50 @@ public final class RequestTest {
     }
 
     private static void names() {
-        good(FIRST, "HOST: x", "UPGRADE: websocket", "CONNECTION: upgrade", "SEC-WEBSOCKET-KEY: " + OtherEnd.KEY,
+        Asker.good(Asker.FIRST, "HOST: x", "UPGRADE: websocket", "CONNECTION: upgrade", "SEC-WEBSOCKET-KEY: " + OtherEnd.KEY,
             "SEC-WEBSOCKET-VERSION: 13");
-        good(FIRST, "host: x", "upgrade: websocket", "connection: upgrade", "sec-websocket-key: " + OtherEnd.KEY,
+        Asker.good(Asker.FIRST, "host: x", "upgrade: websocket", "connection: upgrade", "sec-websocket-key: " + OtherEnd.KEY,
             "sec-websocket-version: 13");
-        good(FIRST, VERSION, KEY, CONNECTION, UPGRADE, HOST);
-        String[] five = {HOST, UPGRADE, CONNECTION, KEY, VERSION};
+        Asker.good(Asker.FIRST, Asker.VERSION, Asker.KEY, Asker.CONNECTION, Asker.UPGRADE, Asker.HOST);
+        String[] five = {Asker.HOST, Asker.UPGRADE, Asker.CONNECTION, Asker.KEY, Asker.VERSION};
         for (int i = 0; i < 5; i++) {
-            String[] without = {FIRST, HOST, UPGRADE, CONNECTION, KEY, VERSION};
+            String[] without = Asker.goodLines();
             without[1 + i] = "x: y";
-            bad(without);
-            bad(FIRST, HOST, UPGRADE, CONNECTION, KEY, VERSION, five[i]);
-            bad(FIRST, five[i].toUpperCase(), HOST, UPGRADE, CONNECTION, KEY, VERSION);
+            Asker.bad(without);
+            Asker.bad(Asker.andThen(five[i]));
+            Asker.bad(Asker.withSecond(five[i].toUpperCase()));
         }
     }
 
     private static void hosts() {
         for (String value : new String[] {"", " ", "\t", " \t \t"}) {
-            bad(FIRST, "Host:" + value, UPGRADE, CONNECTION, KEY, VERSION);
+            Asker.bad(Asker.with("Host:" + value));
         }
         for (String value : new String[] {"x", " x ", "\tx y\t", ",", ":"}) {
-            good(FIRST, "Host:" + value, UPGRADE, CONNECTION, KEY, VERSION);
+            Asker.good(Asker.with("Host:" + value));
         }
     }
 
     private static void words() {
         for (String value : new String[] {"$", " $", "\t$\t", "x,$", "$,x", ",$", "$,", "x , $ , y", ",,\t$ ,,", "$,$",
             "x y,$"}) {
-            good(FIRST, HOST, "Upgrade:" + value.replace("$", "WebSocket"), CONNECTION, KEY, VERSION);
-            good(FIRST, HOST, UPGRADE, "Connection:" + value.replace("$", "UPGRADE"), KEY, VERSION);
+            Asker.good(Asker.with("Upgrade:" + value.replace("$", "WebSocket")));
+            Asker.good(Asker.with("Connection:" + value.replace("$", "UPGRADE")));
         }
         for (String value : new String[] {"", " ", ",", "x", "$x", "x$", "x $", "$ x", "$;x", "$/13", "\"$\"", "$\tx",
             "x,y", "x,$ y"}) {
-            bad(FIRST, HOST, "Upgrade:" + value.replace("$", "websocket"), CONNECTION, KEY, VERSION);
-            bad(FIRST, HOST, UPGRADE, "Connection:" + value.replace("$", "upgrade"), KEY, VERSION);
+            Asker.bad(Asker.with("Upgrade:" + value.replace("$", "websocket")));
+            Asker.bad(Asker.with("Connection:" + value.replace("$", "upgrade")));
         }
-        bad(FIRST, HOST, "Upgrade: upgrade", CONNECTION, KEY, VERSION);
-        bad(FIRST, HOST, UPGRADE, "Connection: websocket", KEY, VERSION);
-        bad(FIRST, HOST, "Upgrade: web,socket", CONNECTION, KEY, VERSION);
-        bad(FIRST, HOST, "Upgrade: xebsocket", CONNECTION, KEY, VERSION);
-        bad(FIRST, HOST, "Upgrade: websocke", CONNECTION, KEY, VERSION);
+        Asker.bad(Asker.with("Upgrade: upgrade"));
+        Asker.bad(Asker.with("Connection: websocket"));
+        Asker.bad(Asker.with("Upgrade: web,socket"));
+        Asker.bad(Asker.with("Upgrade: xebsocket"));
+        Asker.bad(Asker.with("Upgrade: websocke"));
     }
 
     private static void keys() {
-        good(FIRST, HOST, UPGRADE, CONNECTION, "Sec-WebSocket-Key:\t " + OtherEnd.KEY + " \t", VERSION);
+        Asker.good(Asker.with("Sec-WebSocket-Key:\t " + OtherEnd.KEY + " \t"));
         String signs = "ABCDEFGHIJKLMNOPQRSTUVWXYZabcdefghijklmnopqrstuvwxyz0123456789+/";
         for (int sign = 32; sign < 127; sign++) {
             boolean inside = signs.indexOf(sign) >= 0;
@@ -221,48 +178,43 @@ public final class RequestTest {
         FramedTalk x = new FramedTalk();
         OtherEnd.feed(x, OtherEnd.signs(OtherEnd.goodRequest(key)));
         OtherEnd.due("state with key " + key, x.state(), isGood ? OtherEnd.OPEN : OtherEnd.CLOSED);
-        OtherEnd.due("outLength with key " + key, x.outLength(), isGood ? 129 : BAD.length());
+        OtherEnd.due("outLength with key " + key, x.outLength(), isGood ? 129 : Asker.BAD.length());
     }
 
     private static void versions() {
         for (String value : new String[] {"13", " 13", "13 ", "\t13 \t"}) {
-            good(FIRST, HOST, UPGRADE, CONNECTION, KEY, "Sec-WebSocket-Version:" + value);
+            Asker.good(Asker.with("Sec-WebSocket-Version:" + value));
         }
         for (String value : new String[] {"", " ", "8", "12", "14", "23", "1 3", "013", "130", "13,8", "13, 13", "thirteen"}) {
-            old(FIRST, HOST, UPGRADE, CONNECTION, KEY, "Sec-WebSocket-Version:" + value);
+            Asker.old(Asker.with("Sec-WebSocket-Version:" + value));
         }
-        bad(FIRST, HOST, UPGRADE, CONNECTION, "Sec-WebSocket-Key: x", "Sec-WebSocket-Version: 8");
-        bad(FIRST, "Host:", UPGRADE, CONNECTION, KEY, "Sec-WebSocket-Version: 8");
-        bad("GET / HTTP/1.0", HOST, UPGRADE, CONNECTION, KEY, "Sec-WebSocket-Version: 8");
-    }
-
-    private static String ofSize(int size) {
-        String bare = OtherEnd.request(FIRST, HOST, UPGRADE, CONNECTION, KEY, VERSION, "x:");
-        return OtherEnd.request(FIRST, HOST, UPGRADE, CONNECTION, KEY, VERSION, "x:" + "y".repeat(size - bare.length()));
+        Asker.bad(Asker.FIRST, Asker.HOST, Asker.UPGRADE, Asker.CONNECTION, "Sec-WebSocket-Key: x", "Sec-WebSocket-Version: 8");
+        Asker.bad(Asker.FIRST, "Host:", Asker.UPGRADE, Asker.CONNECTION, Asker.KEY, "Sec-WebSocket-Version: 8");
+        Asker.bad("GET / HTTP/1.0", Asker.HOST, Asker.UPGRADE, Asker.CONNECTION, Asker.KEY, "Sec-WebSocket-Version: 8");
     }
 
     private static void limit() {
-        due(ofSize(399), welcome(OtherEnd.PROOF), OtherEnd.OPEN);
-        due(ofSize(400), welcome(OtherEnd.PROOF), OtherEnd.OPEN);
-        due(ofSize(401), BAD, OtherEnd.CLOSED);
+        Asker.due(Asker.ofSize(399, Asker.VERSION), Asker.welcome(OtherEnd.PROOF), OtherEnd.OPEN);
+        Asker.due(Asker.ofSize(400, Asker.VERSION), Asker.welcome(OtherEnd.PROOF), OtherEnd.OPEN);
+        Asker.due(Asker.ofSize(401, Asker.VERSION), Asker.BAD, OtherEnd.CLOSED);
         FramedTalk x = new FramedTalk();
         OtherEnd.feedBy(7, x, OtherEnd.many('G', 399));
         OtherEnd.due("state behind 399 bytes", x.state(), OtherEnd.ASKED);
         OtherEnd.due("outLength behind 399 bytes", x.outLength(), 0);
         x.feed('G', 1);
         OtherEnd.due("state behind 400 bytes", x.state(), OtherEnd.CLOSED);
-        OtherEnd.due("OUT behind 400 bytes", OtherEnd.out(x), BAD);
+        OtherEnd.due("OUT behind 400 bytes", OtherEnd.out(x), Asker.BAD);
         OtherEnd.dueState("feed when the request was refused", () -> x.feed(0, 1));
     }
 
     private static void behindTheRequest() {
         FramedTalk x = new FramedTalk();
         byte[] ping = OtherEnd.frame(OtherEnd.LAST + OtherEnd.PING, OtherEnd.signs("Hi"));
-        OtherEnd.feed(x, OtherEnd.signs(ofSize(190) + OtherEnd.asSigns(ping)));
+        OtherEnd.feed(x, OtherEnd.signs(Asker.ofSize(190, Asker.VERSION) + OtherEnd.asSigns(ping)));
         OtherEnd.due("a frame in the same call", OtherEnd.out(x),
-            welcome(OtherEnd.PROOF) + OtherEnd.asSigns(138, 2, 'H', 'i'));
+            Asker.welcome(OtherEnd.PROOF) + OtherEnd.asSigns(138, 2, 'H', 'i'));
         FramedTalk refused = new FramedTalk();
         OtherEnd.due("bytes behind a refusal are lost", refused.feed(0x4747470A0D0A0DL, 7), 0);
-        OtherEnd.due("OUT of that", OtherEnd.out(refused), BAD);
+        OtherEnd.due("OUT of that", OtherEnd.out(refused), Asker.BAD);
     }
 }
