@@ -65,10 +65,10 @@ public final class CallEdgeTest {
 
     /** "where several exceptions that a call names fit, it is the one that it names first". */
     private static void numberOfBytesWhenClosed() {
-        FramedTalk x = new FramedTalk();
-        OtherEnd.feed(x, OtherEnd.signs("\r\n\r\n"));
         for (int n = -1; n <= 10; n++) {
             int count = n;
+            FramedTalk x = new FramedTalk();
+            OtherEnd.feed(x, OtherEnd.signs("\r\n\r\n"));
             if (n >= 1 && n <= 8) {
                 Edge.state("feed of " + n + " when CLOSED", x, () -> x.feed(0, count));
             } else {
@@ -187,7 +187,7 @@ public final class CallEdgeTest {
         Edge.dueDraft("of the other one", y, new byte[0]);
     }
 
-    /** An open talk, and how many of its calls have been made: request in pieces of eight, and one drop. */
+    /** How many calls openCounted makes: the request in pieces of eight, and one drop. */
     private static int openingCalls() {
         return (OtherEnd.goodRequest(OtherEnd.KEY).length() + 7) / 8 + 1;
     }
@@ -205,9 +205,9 @@ public final class CallEdgeTest {
 
     /** Feeds the same frame over and over, eight bytes a call; answers how many were whole. */
     private static int feedOver(FramedTalk x, byte[] frame, int calls) {
-        byte[] three = OtherEnd.join(frame, frame, frame, frame);
+        byte[] four = OtherEnd.join(frame, frame, frame, frame);
         for (int c = 0; c < calls; c++) {
-            x.feed(OtherEnd.word(three, c * 8 % 24, 8), 8);
+            x.feed(OtherEnd.word(four, c * 8 % 24, 8), 8);
         }
         return calls * 8 / 6;
     }
@@ -247,13 +247,20 @@ public final class CallEdgeTest {
         }
         x.write(0x61616161, 4);
         calls += 13;
-        while (calls + 2 < CALLS) {
+        while (calls + 4 <= CALLS) {
             x.send(1, 1);
             x.drop(300);
             calls += 2;
         }
-        OtherEnd.due("outLength, the last call but one", x.outLength(), 0);
-        OtherEnd.due("send, at most the 512th call", x.send(2, 0), 1);
+        spend(x, CALLS - 2 - calls);
+        OtherEnd.due("outLength, the 511th call", x.outLength(), 0);
+        OtherEnd.due("send, the 512th call", x.send(2, 0), 1);
+    }
+
+    private static void spend(FramedTalk x, int calls) {
+        for (int c = 0; c < calls; c++) {
+            x.state();
+        }
     }
 
     /** The same for messages that are taken at once. */
@@ -261,13 +268,14 @@ public final class CallEdgeTest {
         FramedTalk x = openCounted();
         int calls = openingCalls();
         int whole = 0;
-        while (calls + 3 < CALLS) {
+        while (calls + 4 <= CALLS) {
             OtherEnd.due("feed", x.feed(OtherEnd.word(EMPTY_TEXT, 0, 6), 6), 1);
             OtherEnd.due("take", x.take(), 0);
             calls += 2;
             whole++;
         }
-        OtherEnd.due("messages", x.messages(), 0);
-        OtherEnd.due("delivered, at most the 512th call", x.delivered(), whole);
+        spend(x, CALLS - 2 - calls);
+        OtherEnd.due("messages, the 511th call", x.messages(), 0);
+        OtherEnd.due("delivered, the 512th call", x.delivered(), whole);
     }
 }

@@ -47,12 +47,15 @@ public final class CloseEdgeTest {
     /** "its content is one byte: 1002"; none, two, three and up to 125 may be. */
     private static void numberOfBytes() {
         FramedTalk none = OtherEnd.open();
-        OtherEnd.feed(none, OtherEnd.frame(136, NONE));
+        OtherEnd.feed(none, OtherEnd.frame(138, OtherEnd.bytes(3, 232)), OtherEnd.frame(136, NONE));
         OtherEnd.due("a CLOSE of none: endCode", none.endCode(), 1005);
         OtherEnd.dueOut("a CLOSE of none", none, 136, 0);
         for (int only : new int[] {0, 3, 'a', 128, 255}) {
             Edge.violates("a CLOSE of one byte", 1002, OtherEnd.frame(136, OtherEnd.bytes(only)));
         }
+        // The second byte of a short one before is not the second byte of this one.
+        Edge.violates("a CLOSE of one byte behind a PONG of two", 1002,
+            OtherEnd.frame(138, OtherEnd.bytes(3, 232)), OtherEnd.frame(136, OtherEnd.bytes(3)));
         for (int reason : new int[] {0, 1, 2, 122, 123}) {
             FramedTalk x = OtherEnd.open();
             OtherEnd.feed(x, OtherEnd.closeFrame(1000, OtherEnd.many('r', reason)));

@@ -198,7 +198,7 @@ public final class DraftEdgeTest {
         OtherEnd.due("OUT of " + what, OtherEnd.out(x), frames(kind, draft, size));
     }
 
-    /** "in frames of size bytes each (the last one may have fewer)": just below, at and above each whole number. */
+    /** "in frames of size bytes each (the last one may have fewer": just below, at and above each whole number. */
     private static void framesOfSend() {
         for (int size : new int[] {1, 2, 3, 7, 49, 50, 99, 100}) {
             for (int frames = 1; frames * size <= 100; frames++) {

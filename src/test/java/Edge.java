@@ -6,7 +6,7 @@ import java.util.function.BooleanSupplier;
 final class Edge {
     private static final int LONGEST_PONG = 127;
     // So many bytes of a row are looked at that an object stays within the 512 calls that it is promised for.
-    private static final int LOOKS = 40;
+    private static final int LOOKS = 16;
 
     private Edge() {
     }

@@ -184,7 +184,7 @@ public final class FrameEdgeTest {
         }
     }
 
-    /** "in two bytes it is below 126: 1002". */
+    /** "in two bytes it is below 126": 1002. */
     private static void lengthInTwoBytes() {
         for (int first : new int[] {1, 2, 129, 130}) {
             for (int length : new int[] {0, 1, 124, 125}) {
@@ -202,7 +202,7 @@ public final class FrameEdgeTest {
         }
     }
 
-    /** "in eight bytes below 65536: 1002", found at the eighth of them. */
+    /** "in eight bytes below 65536": 1002, found at the eighth of them. */
     private static void lengthInEightBytes() {
         for (int first : new int[] {1, 2, 129, 130}) {
             for (long length : new long[] {0, 1, 125, 126, 127, 255, 256, 299, 300, 301, 65534, 65535}) {
@@ -276,7 +276,7 @@ public final class FrameEdgeTest {
     private static void contentCountsAnewInEachMessage() {
         FramedTalk x = OtherEnd.open();
         byte[] full = OtherEnd.frame(130, OtherEnd.many(9, 300));
-        for (int i = 1; i <= 6; i++) {
+        for (int i = 1; i <= 5; i++) {
             OtherEnd.due("feed of one of 300", OtherEnd.feed(x, full), 1);
             OtherEnd.due("delivered", x.delivered(), i);
         }

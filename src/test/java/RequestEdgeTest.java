@@ -20,6 +20,7 @@ public final class RequestEdgeTest {
         the400thByteOfAnyRequest();
         the400thByteWithinACall();
         endAtThe400thByte();
+        linesBeforeTheFirst();
         numberOfTargetSigns();
         everyTargetSign();
         everySignOfTheFirstLine();
@@ -139,6 +140,16 @@ public final class RequestEdgeTest {
             Asker.due(Asker.ofSize(size, Asker.VERSION), Asker.BAD, OtherEnd.CLOSED);
             Asker.due(Asker.ofSize(size, OLD_VERSION), Asker.BAD, OtherEnd.CLOSED);
         }
+    }
+
+    /** "cut at each CR LF into LINES": one without a sign before the first is the first, and there may be no others. */
+    private static void linesBeforeTheFirst() {
+        Asker.due("\r\n" + OtherEnd.goodRequest(OtherEnd.KEY), Asker.BAD, OtherEnd.CLOSED);
+        Asker.due("\r\n\r\n" + OtherEnd.goodRequest(OtherEnd.KEY), Asker.BAD, OtherEnd.CLOSED);
+        Asker.due("x: y\r\n" + OtherEnd.goodRequest(OtherEnd.KEY), Asker.BAD, OtherEnd.CLOSED);
+        Asker.bad(Asker.FIRST);
+        Asker.bad(Asker.FIRST, Asker.FIRST, Asker.HOST, Asker.UPGRADE, Asker.CONNECTION, Asker.KEY, Asker.VERSION);
+        Asker.good(Asker.goodLines());
     }
 
     /** "one or more characters 33 .. 126": none, one, two, and as many as there is room for. */
@@ -313,7 +324,7 @@ public final class RequestEdgeTest {
         }
     }
 
-    /** "among the WORDS of upgrade is websocket (in capitals or small letters)". */
+    /** "among the WORDS of upgrade is websocket", "(in capitals or small letters)". */
     private static void wordsOfUpgrade() {
         word("Upgrade", "websocket");
         Asker.bad(Asker.with("Upgrade: upgrade"));

@@ -202,7 +202,7 @@ public final class TextEdgeTest {
         text();
     }
 
-    /** "The last byte of the last frame of a TEXT: a character is not whole: 1007". */
+    /** "The last byte of the last frame of a TEXT": "a character is not whole: 1007". */
     private static void wholeAtTheLastFrame() {
         int[][] characters = {{195, 169}, {226, 130, 172}, {240, 159, 146, 150}};
         for (int[] whole : characters) {
